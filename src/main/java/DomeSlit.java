@@ -25,6 +25,7 @@ public final class DomeSlit {
     private static final int ALWAYS = 12;
     private static final int COUNTS = 11, FACTS = 6;
     private static final int MISSING = -1;
+    private static final int GUESS_KIND = 0, GUESS_PLACE = 1, GUESS_SPEED = 2;
 
     private final Line[] rows = new Line[6];
     private final Line[] texts = new Line[4];
@@ -89,11 +90,9 @@ public final class DomeSlit {
 
     public int tear(int r) {
         Line row = lineAt(rows, r);
-        if (row == null) {
-            return BAD;
-        }
-        if (row.isMissing()) {
-            return found(NOTHING);
+        int refused = refuseLine(row);
+        if (row == null || refused != 0) {
+            return refused;
         }
         row.remove();
         return 1;
@@ -120,11 +119,9 @@ public final class DomeSlit {
 
     public int mean(int r) {
         Line row = lineAt(rows, r);
-        if (row == null) {
-            return BAD;
-        }
-        if (row.isMissing()) {
-            return found(NOTHING);
+        int refused = refuseLine(row);
+        if (row == null || refused != 0) {
+            return refused;
         }
         int size = row.size();
         if (size <= 0) {
@@ -151,22 +148,18 @@ public final class DomeSlit {
 
     public int fault(int t) {
         Line text = lineAt(texts, t);
-        if (text == null) {
-            return BAD;
-        }
-        if (text.isMissing()) {
-            return found(NOTHING);
+        int refused = refuseLine(text);
+        if (text == null || refused != 0) {
+            return refused;
         }
         return reader.faultOf(text);
     }
 
     public int dome(int t) {
         Line text = lineAt(texts, t);
-        if (text == null) {
-            return BAD;
-        }
-        if (text.isMissing()) {
-            return found(NOTHING);
+        int refused = refuseLine(text);
+        if (text == null || refused != 0) {
+            return refused;
         }
         if (reader.faultOf(text) != NONE) {
             return STATE;
@@ -406,59 +399,15 @@ public final class DomeSlit {
     // ---- 5 the star, or the dome
 
     public int kinds(int i, int r) {
-        Light light = lightAt(i);
-        Line notes = lineAt(rows, r);
-        if (light == null || notes == null) {
-            return BAD;
-        }
-        int refused = refuseNotes(notes);
-        if (refused != 0) {
-            return refused;
-        }
-        int bits = 0;
-        int here = light.placeAt(night.now());
-        for (int kind = 0; kind < KINDS; kind++) {
-            guess.standAt(here, night.now(), kind, light.speed(), light.toldBright());
-            bits |= guessFits(notes) ? 1 << kind : 0;
-        }
-        return bits;
+        return guessed(i, r, GUESS_KIND);
     }
 
     public int places(int i, int r) {
-        Light light = lightAt(i);
-        Line notes = lineAt(rows, r);
-        if (light == null || notes == null) {
-            return BAD;
-        }
-        int refused = refuseNotes(notes);
-        if (refused != 0) {
-            return refused;
-        }
-        int bits = 0;
-        for (int here = 0; here < RING; here++) {
-            guess.standAt(here, night.now(), light.kind(), light.speed(), light.toldBright());
-            bits |= guessFits(notes) ? 1 << here : 0;
-        }
-        return bits;
+        return guessed(i, r, GUESS_PLACE);
     }
 
     public int speeds(int i, int r) {
-        Light light = lightAt(i);
-        Line notes = lineAt(rows, r);
-        if (light == null || notes == null) {
-            return BAD;
-        }
-        int refused = refuseNotes(notes);
-        if (refused != 0) {
-            return refused;
-        }
-        int bits = 0;
-        int here = light.placeAt(night.now());
-        for (int speed = SLOWEST; speed <= FASTEST; speed++) {
-            guess.standAt(here, night.now(), light.kind(), speed, light.toldBright());
-            bits |= guessFits(notes) ? 1 << (speed - SLOWEST) : 0;
-        }
-        return bits;
+        return guessed(i, r, GUESS_SPEED);
     }
 
     public int fainter(int i, int r) {
@@ -621,21 +570,28 @@ public final class DomeSlit {
         return n;
     }
 
-    /** 0, if a place of a ROW or a TEXT can be used; else what refuses it. */
-    private int refusePlace(Line line, int i) {
+    /** 0, if a ROW or a TEXT is there; else what refuses it. */
+    private int refuseLine(Line line) {
         if (line == null) {
             return BAD;
         }
-        if (line.isMissing()) {
-            return found(NOTHING);
+        return line.isMissing() ? found(NOTHING) : 0;
+    }
+
+    /** 0, if a place of a ROW or a TEXT can be used; else what refuses it. */
+    private int refusePlace(Line line, int i) {
+        int refused = refuseLine(line);
+        if (line == null || refused != 0) {
+            return refused;
         }
         return line.holds(i) ? 0 : found(BEYOND);
     }
 
     /** 0, if a ROW is a row of TURNS; else what refuses it. */
     private int refuseTurns(Line row) {
-        if (row.isMissing()) {
-            return found(NOTHING);
+        int refused = refuseLine(row);
+        if (row == null || refused != 0) {
+            return refused;
         }
         if (isNoFollowing(row.size())) {
             return found(SIZE);
@@ -645,8 +601,9 @@ public final class DomeSlit {
 
     /** 0, if a ROW is one of notes; else what refuses it. */
     private int refuseNotes(Line row) {
-        if (row.isMissing()) {
-            return found(NOTHING);
+        int refused = refuseLine(row);
+        if (row == null || refused != 0) {
+            return refused;
         }
         if (row.size() > MOST_NOTES) {
             return found(SIZE);
@@ -669,6 +626,30 @@ public final class DomeSlit {
             n++;
         }
         return n;
+    }
+
+    /** The bits of what a LIGHT can be by notes: one thing of it is guessed, the rest is as told. */
+    private int guessed(int i, int r, int what) {
+        Light light = lightAt(i);
+        Line notes = lineAt(rows, r);
+        if (light == null || notes == null) {
+            return BAD;
+        }
+        int refused = refuseNotes(notes);
+        if (refused != 0) {
+            return refused;
+        }
+        int here = light.placeAt(night.now());
+        int guesses = what == GUESS_PLACE ? RING : what == GUESS_KIND ? KINDS : FASTEST - SLOWEST + 1;
+        int bits = 0;
+        for (int g = 0; g < guesses; g++) {
+            int kind = what == GUESS_KIND ? g : light.kind();
+            int speed = what == GUESS_SPEED ? g + SLOWEST : light.speed();
+            guess.become(kind, 0, speed, light.toldBright());
+            guess.standAt(what == GUESS_PLACE ? g : here, night.now());
+            bits |= guessFits(notes) ? 1 << g : 0;
+        }
+        return bits;
     }
 
     private boolean guessFits(Line notes) {
@@ -983,9 +964,8 @@ public final class DomeSlit {
             bright = asBright;
         }
 
-        /** So that it is at a PLACE at a MOMENT: its start is told back from there. */
-        void standAt(int here, int moment, int ofKind, int bySpeed, int asBright) {
-            become(ofKind, 0, bySpeed, asBright);
+        /** So that it is at a PLACE at a MOMENT: its start is reckoned back from there. */
+        void standAt(int here, int moment) {
             start = round(here - movedBy(moment));
         }
 
