@@ -210,6 +210,12 @@ public final class PromisesTest {
         due("the sum of great ones", askedBehind(x, x.mean(0)), HIGHEST);
         layAll(x, 0, LOWEST);
         due("one alone", askedBehind(x, x.mean(0)), LOWEST);
+        x.row(2, 40);
+        x.lay(2, 39, -80);
+        due("forty of them", askedBehind(x, x.mean(2)), -2);
+        x.tear(2);
+        layAll(x, 0, LOWEST);
+        x.mean(0);
         x.row(1, 0);
         long before = x.digest();
         refused(x, "mean(6)", before, x.mean(6), BAD);
@@ -305,6 +311,12 @@ public final class PromisesTest {
         faultIs("o302s0039s0039s0039s0039s0039s", 29);
         faultIs("o302s0039s0039s0039s0039s0039  x", 31);
         faultIs("o302s0039\t", 9);
+        faultIs("o302s003:", 8);
+        faultIs("o302s003/", 8);
+        faultIs("o302s00/9", 7);
+        faultIs("o30:s0039", 3);
+        faultIs("o3/2s0039", 2);
+        faultIs("o302s1/39", 6);
         faultIs("\u00e9302s0039", 0);
         DomeSlit x = new DomeSlit();
         due("fault(4)", x.fault(4), BAD);
@@ -341,6 +353,18 @@ public final class PromisesTest {
         due("it stays without its text", askedBehind(x, x.light(1, 3)), 7);
         DomeSlit all = domeOf("o101 s0039 s0039 s0039 s0039 s0039");
         due("five", all.count(0), 5);
+        for (int k = 0; k < 3; k++) {
+            all.keep(k);
+        }
+        write(all, 0, "o501 s0139");
+        all.dome(0);
+        for (int k = 0; k < 3; k++) {
+            due("on(" + k + ") behind dome(0)", all.on(k), FINDING);
+        }
+        due("nothing is seen of the others", all.seen(0), 1);
+        due("nothing comes of the others", all.moment(), 18);
+        due("no order has the others", all.order(0), 0);
+        rowIs(all, 0, 0);
     }
 
     private static void factsAre(DomeSlit x, int i, int... facts) {
@@ -468,7 +492,8 @@ public final class PromisesTest {
         refused(x, "turn(7)", before, x.turn(7), BAD);
         refused(x, "turn(-7)", before, x.turn(-7), BAD);
         refused(x, "turn(lowest)", before, x.turn(LOWEST), BAD);
-        passAll(x, 33);
+        passAll(x, 32);
+        due("the fortieth", x.turn(1), 5);
         before = x.digest();
         refused(x, "turn(1), 40 deeds", before, x.turn(1), FULL);
         refused(x, "turn(0), 40 deeds", before, x.turn(0), BAD);
@@ -506,6 +531,12 @@ public final class PromisesTest {
         due("undo(0)", x.undo(0), 2);
         due("as at first", x.digest(), states[0]);
         due("another turn", x.turn(2), 6);
+        x.turn(1);
+        x.turn(-1);
+        x.moment();
+        due("undo(2)", x.undo(2), 2);
+        due("a turn by 1 is no moment", x.count(1), 0);
+        due("the slit", x.count(3), 3);
     }
 
     private static void keep() {
@@ -543,6 +574,13 @@ public final class PromisesTest {
         x.turn(5);
         due("gone on from, twice", x.on(1), 2);
         due("as it was kept", x.digest(), then);
+        x.undo(0);
+        x.moment();
+        x.turn(6);
+        x.on(1);
+        due("its own deeds are kept, too", x.undo(1), 1);
+        due("the first was a turn by 3", x.count(3), 3);
+        x.on(1);
         found(x, "on(0)", then, x.on(0), NOTHING);
         refused(x, "on(3)", then, x.on(3), BAD);
         refused(x, "on(-1)", then, x.on(-1), BAD);
@@ -622,6 +660,7 @@ public final class PromisesTest {
         due("stays(-1)", x.stays(-1), BAD);
         due("a star back round the ring in time", domeOf("o302 s2319").stays(0), 0);
         due("from behind", domeOf("o302 s0219").stays(0), 3);
+        due("one of 1, at the rim", domeOf("o302 p0021").stays(0), 100);
     }
 
     private static void aheadIs(String text, int moments, int place, int lasts) {
@@ -693,6 +732,14 @@ public final class PromisesTest {
         due("a fast one, narrow", narrow.follow(0, 4, 5), 11);
         rowIs(narrow, 5, 2, 3, 3, 3);
         due("as far as it sticks", narrow.follow(0, 5, 5), 18);
+        DomeSlit farthest = domeOf("o112 p0621 p1821 p0721");
+        due("by 6", farthest.follow(0, 1, 0), 6);
+        rowIs(farthest, 0, 6);
+        due("by -6", farthest.follow(1, 1, 0), 6);
+        rowIs(farthest, 0, -6);
+        due("by 7", farthest.follow(2, 1, 0), NONE);
+        DomeSlit flaring = domeOf("o312 f0121");
+        due("goes out at odd moments", flaring.follow(0, 2, 0), NONE);
         DomeSlit way = domeOf("o223 p0221 s0001");
         due("a still one", way.follow(0, 3, 0), 1);
         rowIs(way, 0, 1, 0, 0);
@@ -737,6 +784,14 @@ public final class PromisesTest {
         due("to its midst", x.most(1, 2, 12), 2);
         due("and it stays", x.most(1, 8, 12), 2 * 7);
         due("it sticks on that way", x.most(1, 2, 10), 0);
+        DomeSlit farthest = domeOf("o112 p0621 p1821 p0721");
+        due("by 6", farthest.most(0, 1, 6), 1);
+        due("by -6", farthest.most(1, 1, 6), 1);
+        due("by 7", farthest.most(2, 1, 40), 0);
+        DomeSlit flaring = domeOf("o112 f0029");
+        flaring.moment();
+        due("flaring in 3", flaring.most(0, 3, 0), 4 + 9 + 4);
+        due("flaring", flaring.most(0, 4, 0), 4 + 9 + 4 + 12);
         due("most(2, 1, 0)", x.most(2, 1, 0), BAD);
         due("most(-1, 1, 0)", x.most(-1, 1, 0), BAD);
         due("most(0, 0, 0)", x.most(0, 0, 0), BAD);
@@ -799,6 +854,11 @@ public final class PromisesTest {
         rowIs(other, 1, 0, 2, 1);
         DomeSlit alike = domeOf("o318 p0121 p0121 p0121 p0121 p0121");
         due("all alike", alike.order(2), 0);
+        rowIs(alike, 2, 0, 1, 2, 3, 4);
+        alike.most(0, 8, 40);
+        due("all alike, behind another search", alike.order(2), 0);
+        alike.follow(0, 8, 1);
+        due("all alike, behind yet another", alike.order(2), 0);
         rowIs(alike, 2, 0, 1, 2, 3, 4);
         DomeSlit goes = domeOf("o118 s0659 s0021");
         due("the one that goes off first", goes.order(2), 6 + 6);
@@ -968,6 +1028,10 @@ public final class PromisesTest {
         DomeSlit farther = domeOf("o302 p0521");
         due("within three", farther.cloud(0, 1), 0);
         due("three, the first for nothing, one clouded", farther.cloud(0, 3), 2);
+        due("two back", domeOf("o118 p2221").cloud(0, 1), 1);
+        due("three back", domeOf("o118 p2121").cloud(0, 1), 0);
+        due("two on", domeOf("o118 p0221").cloud(0, 1), 1);
+        due("three on", domeOf("o118 p0321").cloud(0, 1), 0);
         due("cloud(3, 1)", x.cloud(3, 1), BAD);
         due("cloud(-1, 1)", x.cloud(-1, 1), BAD);
         due("cloud(0, 5)", x.cloud(0, 5), BAD);
@@ -1020,6 +1084,7 @@ public final class PromisesTest {
         chancesAre(x, x.odds(1, 0, 0), 0, 1);
         chancesAre(x, x.odds(1, 0, 12), 1, 1);
         chancesAre(x, x.odds(1, 0, 4), 1, 3);
+        chancesAre(x, x.odds(1, 0, 5), 5, 12);
         layAll(x, 0, 0, 0);
         chancesAre(x, x.odds(1, 0, 4), 1, 1);
         layAll(x, 0, 1, -1);
