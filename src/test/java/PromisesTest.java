@@ -1,18 +1,7 @@
 import java.util.Arrays;
 
 /** Each promise by itself: ordinary inputs, the edges that the document names, wrong inputs. */
-public final class PromisesTest {
-    private static final int BAD = -1, FULL = -2, FINDING = -3, STATE = -4, NONE = -9;
-    private static final int NOTHING = 1, BEYOND = 2, UNLIKE = 3, NOUGHT = 4, SIZE = 5;
-    private static final int LOWEST = Integer.MIN_VALUE, HIGHEST = Integer.MAX_VALUE;
-
-    private static final Check check = new Check();
-    private static int promise = 0;
-
-    private static void due(String call, long got, long want) {
-        check.due("promise " + promise + ": " + call, got, want);
-    }
-
+public final class PromisesTest extends Bench {
     /** A call that must be refused: nothing may be changed by it but the FINDING. */
     private static void refused(DomeSlit x, String call, long before, long got, long want) {
         due(call, got, want);
@@ -22,48 +11,6 @@ public final class PromisesTest {
     private static void found(DomeSlit x, String call, long before, long got, int finding) {
         refused(x, call, before, got, FINDING);
         due(call + ": finding()", x.finding(), finding);
-    }
-
-    private static void write(DomeSlit x, int t, String text) {
-        x.text(t, text.length());
-        for (int k = 0; k < text.length(); k++) {
-            x.put(t, k, text.charAt(k));
-        }
-    }
-
-    private static DomeSlit domeOf(String text) {
-        DomeSlit x = new DomeSlit();
-        write(x, 0, text);
-        if (x.dome(0) < 1) {
-            check.holds("promise " + promise + ": " + text + " is a dome", false);
-        }
-        return x;
-    }
-
-    private static void layAll(DomeSlit x, int r, int... row) {
-        x.row(r, row.length);
-        for (int k = 0; k < row.length; k++) {
-            x.lay(r, k, row[k]);
-        }
-    }
-
-    private static void rowIs(DomeSlit x, int r, int... row) {
-        for (int k = 0; k < row.length; k++) {
-            due("at(" + r + ", " + k + ")", x.at(r, k), 1);
-            due("place " + k + " of row " + r, x.asked(), row[k]);
-        }
-        due("row " + r + " ends", x.at(r, row.length), FINDING);
-    }
-
-    private static int askedBehind(DomeSlit x, int answer) {
-        due("the call that tells by asked()", answer, 1);
-        return x.asked();
-    }
-
-    private static void passAll(DomeSlit x, int n) {
-        for (int k = 0; k < n; k++) {
-            x.moment();
-        }
     }
 
     public static void main(String[] args) {
@@ -78,11 +25,9 @@ public final class PromisesTest {
             PromisesTest::odds, PromisesTest::lots, PromisesTest::asked, PromisesTest::upper, PromisesTest::lower,
             PromisesTest::count, PromisesTest::finding, PromisesTest::findings, PromisesTest::digest
         };
-        for (Runnable test : tests) {
-            promise++;
-            test.run();
+        for (int k = 0; k < tests.length; k++) {
+            sentence("promise " + (k + 1), tests[k]);
         }
-        promise = 44;
         due("promises tested", tests.length, 44);
         check.end();
     }
@@ -1037,12 +982,6 @@ public final class PromisesTest {
         due("cloud(0, 5)", x.cloud(0, 5), BAD);
         due("cloud(0, -1)", x.cloud(0, -1), BAD);
         due("nothing is done", x.count(2), 0);
-    }
-
-    private static void chancesAre(DomeSlit x, int answer, long upper, long lower) {
-        due("the call that tells chances", answer, 1);
-        due("upper()", x.upper(), upper);
-        due("lower()", x.lower(), lower);
     }
 
     private static void mid() {
