@@ -13,7 +13,10 @@ class Bench {
     static final Check check = new Check();
     static String about = "";
 
-    /** A sentence of the document, word by word, and the test that is its own. */
+    /**
+     * A sentence of the document and the test that is its own: ".." stands for words left out, and
+     * behind the last colon may stand what of it is tried.
+     */
     static void sentence(String words, Runnable test) {
         about = words;
         test.run();

@@ -687,6 +687,9 @@ public final class PromiseEdgesTest extends Bench {
             DomeSlit round = domeOf("o112 p0121 p2321");
             due("over the end of the ring", round.order(0), 1 + 2);
             rowIs(round, 0, 0, 1);
+            DomeSlit goes = domeOf("o118 s2341 s0021");
+            due("one comes over the end of the ring", goes.order(0), 0 + 1);
+            rowIs(goes, 0, 1, 0);
         });
         sentence("29: the first such order comes to a ROW (anew)", () -> {
             DomeSlit alike = domeOf("o512 p0221 p0221 p0221 p0221 p0221");
@@ -700,6 +703,7 @@ public final class PromiseEdgesTest extends Bench {
             due("one out of reach", domeOf("o112 p0721").order(0), NONE);
             due("one of two out of reach", domeOf("o112 p0021 p1221").order(0), NONE);
             due("just within reach, one behind the other", domeOf("o112 p0621 p1221").order(0), 6 + 6 + 4);
+            due("no second TURN for one looked at again", domeOf("o118 p0921 s0051").order(0), NONE);
             due("both out at the second MOMENT", domeOf("o512 v0121 v0121").order(0), NONE);
         });
         sentence("29: BAD; STATE: no LIGHTS", () -> {

@@ -1,6 +1,7 @@
-/** Each sentence of the document's parts "ANSWERS" and "Terms" that names an edge, by a test of its own. */
+/** Each sentence of the document ahead of its promises that names an edge, by a test of its own. */
 public final class TermEdgesTest extends Bench {
     public static void main(String[] args) {
+        lastCall();
         refusals();
         findings();
         answers();
@@ -16,6 +17,17 @@ public final class TermEdgesTest extends Bench {
         following();
         sleepAndLots();
         check.end();
+    }
+
+    private static void lastCall() {
+        sentence("An object is used for at most 512 calls after it has been made", () -> {
+            DomeSlit x = new DomeSlit();
+            x.row(0, 1);
+            for (int call = 2; call <= 511; call++) {
+                due("call " + call, x.lay(0, 0, call), 1);
+            }
+            due("call 512", x.asked(), 510);
+        });
     }
 
     // ---- ANSWERS
